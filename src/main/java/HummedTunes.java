@@ -53,12 +53,8 @@ public final class HummedTunes {
     private static final int JOINS = 1;
     private static final int RULES = 2;
 
-    private final byte[] tape;
-    private int tapeLength;
-    private int faultPlace;
-    private final Facts facts;
-    private final Facts draft;
     private final Reader reader;
+    private final Facts facts;
     private final Scene now;
     private final Scene trial;
     private final Hearing hearing;
@@ -70,12 +66,8 @@ public final class HummedTunes {
     private final int[] gains;
 
     public HummedTunes() {
-        tape = new byte[MAX_TEXT];
-        tapeLength = 0;
-        faultPlace = NONE;
-        facts = new Facts();
-        draft = new Facts();
         reader = new Reader();
+        facts = new Facts();
         Reckoner reckoner = new Reckoner();
         now = new Scene(facts, reckoner);
         trial = new Scene(facts, reckoner);
@@ -93,36 +85,24 @@ public final class HummedTunes {
     // ---- the text
 
     public int feed(int a, int b, int c, int d, int e) {
-        if (tapeLength + BYTES_FED > MAX_TEXT) {
+        if (reader.tapeLength + BYTES_FED > MAX_TEXT) {
             return NONE;
         }
-        putBytes(a);
-        putBytes(b);
-        putBytes(c);
-        putBytes(d);
-        putBytes(e);
-        return tapeLength;
-    }
-
-    private void putBytes(int four) {
-        for (int shift = 24; shift >= 0; shift -= 8) {
-            if (tapeLength < tape.length) {
-                tape[tapeLength] = (byte) (four >>> shift);
-                tapeLength++;
-            }
-        }
+        reader.putBytes(a);
+        reader.putBytes(b);
+        reader.putBytes(c);
+        reader.putBytes(d);
+        reader.putBytes(e);
+        return reader.tapeLength;
     }
 
     public int hills(int n) throws IllegalArgumentException {
-        mustFit(n >= 0 && n <= tapeLength);
-        tapeLength = 0;
-        boolean whole = reader.read(tape, n, draft);
-        faultPlace = reader.faultPlace;
-        if (!whole) {
+        mustFit(n >= 0 && n <= reader.tapeLength);
+        if (!reader.read(n)) {
             book.refuse(REFUSED_TEXTS);
             return reader.fault;
         }
-        facts.copyFrom(draft);
+        facts.copyFrom(reader.out);
         now.begin();
         book.acts = 0;
         book.seen = 0;
@@ -131,7 +111,7 @@ public final class HummedTunes {
     }
 
     public int fault() {
-        return faultPlace;
+        return reader.faultPlace;
     }
 
     // ---- what is
@@ -162,7 +142,7 @@ public final class HummedTunes {
             case 10:
                 return book.seen;
             case 11:
-                return tapeLength;
+                return reader.tapeLength;
             default:
                 return book.refusals(what - 12);
         }
@@ -687,7 +667,6 @@ public final class HummedTunes {
 
     private void startTrial() {
         trial.copyFrom(now);
-        trial.taken = 0;
     }
 
     private boolean isPerson(int person) {
@@ -730,7 +709,6 @@ public final class HummedTunes {
         final int[] air = new int[MAX_TUNES];
         final int[] owner = new int[MAX_TUNES];
         int earshot;
-        boolean earshotTold;
         // Each cell stems from a byte or more of the text, so both rules fit together.
         final int[] code = new int[MAX_TEXT];
         int codeLength;
@@ -741,7 +719,6 @@ public final class HummedTunes {
             people = 0;
             tunes = 0;
             earshot = EARSHOT_UNTOLD;
-            earshotTold = false;
             codeLength = 0;
             for (int rule = 0; rule < RULES; rule++) {
                 ruleFrom[rule] = 0;
@@ -753,7 +730,6 @@ public final class HummedTunes {
             people = other.people;
             tunes = other.tunes;
             earshot = other.earshot;
-            earshotTold = other.earshotTold;
             for (int person = 0; person < MAX_PEOPLE; person++) {
                 breath[person] = other.breath[person];
                 rest[person] = other.rest[person];
@@ -785,7 +761,7 @@ public final class HummedTunes {
         }
     }
 
-    /** Reads a text into FACTS, TOKEN by TOKEN, up to its first FAULT. */
+    /** The tape; reads its text into FACTS, TOKEN by TOKEN, up to the first FAULT. */
     private static final class Reader {
         static final int ENDED = 0;
         static final int WORD = 1;
@@ -807,22 +783,35 @@ public final class HummedTunes {
         static final int MAX_WITHIN = 5;
         static final int MAX_NOTS = 6;
 
-        byte[] text;
+        final byte[] tape = new byte[MAX_TEXT];
+        int tapeLength;
+        // The FACTS of a text that may yet turn out to be at fault.
+        final Facts out = new Facts();
         int length;
-        Facts out;
+        boolean earshotTold;
         int rule;
         int kind;
         int start;
         int end;
         int number;
         int fault;
-        int faultPlace;
+        int faultPlace = NONE;
 
-        boolean read(byte[] tape, int n, Facts draft) {
-            text = tape;
-            out = draft;
+        void putBytes(int four) {
+            for (int shift = 24; shift >= 0; shift -= 8) {
+                if (tapeLength < MAX_TEXT) {
+                    tape[tapeLength] = (byte) (four >>> shift);
+                    tapeLength++;
+                }
+            }
+        }
+
+        /** False: the first n bytes are at fault. The tape is empty then in either case. */
+        boolean read(int n) {
+            tapeLength = 0;
             out.clear();
-            length = Math.min(n, text.length);
+            earshotTold = false;
+            length = Math.min(n, MAX_TEXT);
             end = 0;
             fault = 0;
             faultPlace = NONE;
@@ -835,8 +824,8 @@ public final class HummedTunes {
             return true;
         }
 
-        boolean fail(int number) {
-            fault = number;
+        boolean fail(int which) {
+            fault = which;
             faultPlace = start;
             return false;
         }
@@ -844,23 +833,23 @@ public final class HummedTunes {
         // A byte that begins no TOKEN is a SIGN too: no rule asks for it, so it is at fault as one.
         void nextToken() {
             start = end;
-            while (start < length && isBlank(text[start])) {
+            while (start < length && isBlank(tape[start])) {
                 start++;
             }
             end = start;
             number = 0;
             if (start >= length) {
                 kind = ENDED;
-            } else if (isLetter(text[start])) {
+            } else if (isLetter(tape[start])) {
                 kind = WORD;
-                while (end < length && isLetter(text[end])) {
+                while (end < length && isLetter(tape[end])) {
                     end++;
                 }
-            } else if (isDigit(text[start])) {
+            } else if (isDigit(tape[start])) {
                 kind = NUMBER;
-                while (end < length && isDigit(text[end])) {
+                while (end < length && isDigit(tape[end])) {
                     // Of a longer row, which is at fault, the rest would only overflow.
-                    number = end - start < MAX_DIGITS ? number * 10 + text[end] - '0' : number;
+                    number = end - start < MAX_DIGITS ? number * 10 + tape[end] - '0' : number;
                     end++;
                 }
             } else {
@@ -886,7 +875,7 @@ public final class HummedTunes {
                 return false;
             }
             for (int i = 0; i < word.length(); i++) {
-                if (text[start + i] != word.charAt(i)) {
+                if (tape[start + i] != word.charAt(i)) {
                     return false;
                 }
             }
@@ -894,7 +883,7 @@ public final class HummedTunes {
         }
 
         boolean isSign(char sign) {
-            return kind == SIGN && text[start] == sign;
+            return kind == SIGN && tape[start] == sign;
         }
 
         boolean isLongNumber() {
@@ -1008,11 +997,11 @@ public final class HummedTunes {
         }
 
         boolean readEarshot() {
-            if (out.earshotTold) {
+            if (earshotTold) {
                 return fail(TWICE);
             }
             nextToken();
-            out.earshotTold = true;
+            earshotTold = true;
             out.earshot = readNumber(0, MAX_EARSHOT);
             return out.earshot != NONE && readSign(';');
         }
@@ -1035,7 +1024,7 @@ public final class HummedTunes {
          * Reads what binds at a level or closer: EXPR, AND, NOT with its test, SUM, PRODUCT, PART.
          * Within: how many other EXPRs the whole one stands in.
          */
-        boolean readExpr(int level, int within) {
+        private boolean readExpr(int level, int within) {
             if (level >= PART) {
                 return readPart(within);
             }
@@ -1088,13 +1077,20 @@ public final class HummedTunes {
             }
         }
 
-        boolean readPart(int within) {
+        private boolean readPart(int within) {
             if (isSign('(')) {
                 nextToken();
                 if (within >= MAX_WITHIN) {
                     return fail(canBeginExpr() ? TOO_MUCH : MISPLACED);
                 }
-                return readExpr(EITHER, within + 1) && readSign(')');
+                if (!readExpr(EITHER, within + 1)) {
+                    return false;
+                }
+                if (!isSign(')')) {
+                    return fail(MISPLACED);
+                }
+                nextToken();
+                return true;
             }
             if (kind != NUMBER && kind != WORD) {
                 return fail(MISPLACED);
@@ -1205,6 +1201,7 @@ public final class HummedTunes {
         final int[] hummers = new int[MAX_TUNES];
         final int[] heard = new int[MAX_PEOPLE];
         int left;
+        // How often a TUNE came to another OWNER since this began, or was copied.
         int taken;
 
         Scene(Facts told, Reckoner shared) {
@@ -1234,7 +1231,7 @@ public final class HummedTunes {
         void copyFrom(Scene other) {
             hour = other.hour;
             left = other.left;
-            taken = other.taken;
+            taken = 0;
             System.arraycopy(other.breath, 0, breath, 0, MAX_PEOPLE);
             System.arraycopy(other.place, 0, place, 0, MAX_PEOPLE);
             System.arraycopy(other.cows, 0, cows, 0, MAX_PEOPLE);
@@ -1593,7 +1590,7 @@ public final class HummedTunes {
         }
 
         /** Rows come in their order, so only a shorter one takes the best one's place. */
-        void extend(int depth, int used, int far) {
+        private void extend(int depth, int used, int far) {
             if (far >= least) {
                 return;
             }

@@ -126,6 +126,14 @@ public final class PromisesTest {
     due("nobody joins", () -> x.whose(0, 1, 1), 1);
     due("earshot is anew", () -> Check.tell(x, "earshot 7;"), 0);
     due("earshot told", () -> x.count(3), 7);
+    String full = "tune 1;stops " + "1-".repeat(330) + "hour;";
+    for (int i = 0; i < 5; i++) {
+      due("a full text", () -> Check.tell(x, full), 0);
+    }
+    due("rules of a text behind full ones", () -> Check.tell(x, "person 9 0 0 0;person 9 0 1 0;tune 1 of 0;joins 1;stops hummed=2;"), 0);
+    due("both join", () -> x.whose(0, 1, 1), 3);
+    due("both stop", () -> x.whose(0, 3, 1), 0);
+    due("earshot is anew", () -> Check.tell(x, "earshot 8;"), 0);
     due("nothing told", () -> x.hills(0), 0);
     due("earshot untold", () -> x.count(3), 5);
   }
@@ -214,6 +222,8 @@ public final class PromisesTest {
     fault("joins 1;joins 2;", 5, 8);
     good("stops 1;joins 2;");
     fault("stops x;", 3, 6);
+    fault("stops z;", 3, 6);
+    fault("stops a;", 3, 6);
     fault("stops far;", 3, 6);
     fault("joins hummed;", 3, 6);
     fault("joins person;", 3, 6);
@@ -978,6 +988,16 @@ public final class PromisesTest {
     // The second one is the last, if not hushed; the first one may be hushed or not.
     due("two", () -> w.game(0, 1, 0), 2);
     due("first", () -> w.game(0, 1, 1), 0);
+    // Each gains 4 where the other one loses, round and round: by 0 0 the second one, by 1 0 and 0 1 the first, by 1 1 the second.
+    HummedTunes never = Check.told("person 3 0 2 0;person 5 2 3 0;tune 0 of 1;joins 1;");
+    never.hours(4);
+    due("none rests", () -> never.game(0, 1, 0), 0);
+    due("no first", () -> never.game(0, 1, 1), -1);
+    // Gains -1/4, -1/4 by 0 1, 4/-1 by 1 0, 0/0 by 1 1, where both stop together in the seventh hour.
+    HummedTunes both = Check.told("person 3 1 6 0;person 4 2 4 0;tune 3 of 0;joins 1;");
+    both.hours(2);
+    due("both hushed alone rests", () -> both.game(0, 1, 0), 1);
+    due("11", () -> both.game(0, 1, 1), 11);
     Check.unfit("both are one", () -> x.game(0, 0, 0));
     Check.missing("what ahead of that", () -> x.game(0, 0, 2));
     Check.missing("what -1", () -> x.game(0, 1, -1));
