@@ -136,20 +136,26 @@ public final class AgainstModelTest {
 
   // ---- calls
 
+  /** Mostly a number as given; now and then any int, the extremes above all. */
+  private int orWild(int number) {
+    int[] wild = {Integer.MIN_VALUE, Integer.MAX_VALUE, random.nextInt(), 1 << 30, -2, 256};
+    return random.nextInt(80) == 0 ? wild[random.nextInt(wild.length)] : number;
+  }
+
   private int person() {
-    return random.nextInt(12) == 0 ? random.nextInt(12) - 2 : random.nextInt(4);
+    return orWild(random.nextInt(12) == 0 ? random.nextInt(12) - 2 : random.nextInt(4));
   }
 
   private int tune() {
-    return random.nextInt(12) == 0 ? random.nextInt(10) - 2 : random.nextInt(3);
+    return orWild(random.nextInt(12) == 0 ? random.nextInt(10) - 2 : random.nextInt(3));
   }
 
   private int hours() {
-    return random.nextInt(15) == 0 ? random.nextInt(70) - 4 : random.nextInt(25);
+    return orWild(random.nextInt(15) == 0 ? random.nextInt(70) - 4 : random.nextInt(25));
   }
 
   private int what(int many) {
-    return random.nextInt(15) == 0 ? random.nextInt(many + 4) - 2 : random.nextInt(many);
+    return orWild(random.nextInt(15) == 0 ? random.nextInt(many + 4) - 2 : random.nextInt(many));
   }
 
   private void callOne() {
@@ -175,7 +181,7 @@ public final class AgainstModelTest {
       case 1:
       case 2:
       case 3:
-        int many = random.nextInt(10) == 0 ? random.nextInt(25) - 2 : 1 + random.nextInt(3);
+        int many = orWild(random.nextInt(10) == 0 ? random.nextInt(25) - 2 : 1 + random.nextInt(3));
         agree("hours(" + many + ")", () -> x.hours(many), () -> m.hours(many));
         break;
       case 4:
@@ -188,15 +194,15 @@ public final class AgainstModelTest {
         agree("sell(" + t + ", " + p + ")", () -> x.sell(t, p), () -> m.sell(t, p));
         break;
       case 7:
-        int place = random.nextInt(35) - 2;
+        int place = orWild(random.nextInt(35) - 2);
         agree("go(" + p + ", " + place + ")", () -> x.go(p, place), () -> m.go(p, place));
         break;
       case 8:
         agree("undo()", () -> x.undo(), () -> m.undo());
         break;
       default:
-        int seenTune = random.nextInt(3) == 0 ? -1 : t;
-        int seenHours = random.nextInt(8) == 0 ? random.nextInt(24) - 1 : 1 + random.nextInt(6);
+        int seenTune = orWild(random.nextInt(3) == 0 ? -1 : t);
+        int seenHours = orWild(random.nextInt(8) == 0 ? random.nextInt(24) - 1 : 1 + random.nextInt(6));
         agree("see(" + p + ", " + seenTune + ", " + seenHours + ")", () -> x.see(p, seenTune, seenHours), () -> m.see(p, seenTune, seenHours));
         break;
     }
@@ -279,7 +285,7 @@ public final class AgainstModelTest {
         agree("without(" + p + ", " + h + ")", () -> x.without(p, h), () -> m.without(p, h));
         break;
       case 4:
-        int i = random.nextInt(9) - 2;
+        int i = orWild(random.nextInt(9) - 2);
         agree("round(" + i + ")", () -> x.round(i), () -> m.round(i));
         break;
       case 5:
@@ -289,8 +295,8 @@ public final class AgainstModelTest {
         agree("look(" + two + ")", () -> x.look(two), () -> m.look(two));
         break;
       case 7:
-        int claps = random.nextInt(8) == 0 ? random.nextInt(9) - 1 : 1 + random.nextInt(4);
-        int tenths = random.nextInt(8) == 0 ? random.nextInt(14) - 1 : random.nextInt(11);
+        int claps = orWild(random.nextInt(8) == 0 ? random.nextInt(9) - 1 : 1 + random.nextInt(4));
+        int tenths = orWild(random.nextInt(8) == 0 ? random.nextInt(14) - 1 : random.nextInt(11));
         agree("thunder(" + p + ", " + t + ", " + claps + ", " + tenths + ")", () -> x.thunder(p, t, claps, tenths),
             () -> m.thunder(p, t, claps, tenths));
         break;
@@ -299,7 +305,7 @@ public final class AgainstModelTest {
         break;
       default:
         int seed = random.nextInt();
-        int n = random.nextInt(10) == 0 ? random.nextInt(66) - 2 : random.nextInt(30);
+        int n = orWild(random.nextInt(10) == 0 ? random.nextInt(66) - 2 : random.nextInt(30));
         agree("years(" + seed + ", " + n + ", " + three + ")", () -> x.years(seed, n, three), () -> m.years(seed, n, three));
         break;
     }
@@ -326,7 +332,7 @@ public final class AgainstModelTest {
         agree("forget()", () -> doing(x::forget), () -> doing(m::forget));
         break;
       case 7:
-        int n = random.nextInt(30) - 3;
+        int n = orWild(random.nextInt(30) - 3);
         agree("hills(" + n + ")", () -> x.hills(n), () -> m.hills(n));
         break;
       default:
