@@ -329,7 +329,7 @@ public final class HummedTunes {
 
     private int richest() {
         int best = NONE;
-        int most = 0;
+        int most = NONE;
         for (int person = 0; person < facts.people; person++) {
             int owned = trial.howManyOwned(person);
             if (owned > most) {
@@ -576,14 +576,15 @@ public final class HummedTunes {
         return what == 0 ? many : first;
     }
 
-    /** A couple is 2 by the first one's choice, and the other one's; the first one is HUSHED first. */
+    /** A couple is 2 by the first one's choice, and the other one's. */
     private void playCouple(int person, int other, int couple) {
         startTrial();
-        if (couple >= 2) {
-            trial.quiet(person);
-        }
-        if (couple % 2 == 1) {
-            trial.quiet(other);
+        int hushed = (couple >> 1 & 1) << person | (couple & 1) << other;
+        // The order counts where just these two hum one TUNE: whoever is HUSHED later OWNS it.
+        for (int next = 0; next < facts.people; next++) {
+            if ((hushed >> next & 1) == 1) {
+                trial.quiet(next);
+            }
         }
         trial.passHours(GAME_HOURS);
         int mine = trial.howManyOwned(person);

@@ -800,7 +800,7 @@ final class Model {
     }
     int best = NONE;
     for (int p = w.people.size() - 1; p >= 0; p--) {
-      if (w.owned(p) > 0 && (best == NONE || w.owned(p) >= w.owned(best))) {
+      if (best == NONE || w.owned(p) >= w.owned(best)) {
         best = p;
       }
     }
@@ -1032,10 +1032,14 @@ final class Model {
     for (int a = 0; a < rows; a++) {
       for (int b = 0; b < columns; b++) {
         World w = world.copy();
+        boolean turned = other < person;
+        if (turned && b == 1) {
+          w.hush(other);
+        }
         if (a == 1) {
           w.hush(person);
         }
-        if (b == 1) {
+        if (!turned && b == 1) {
           w.hush(other);
         }
         w = w.after(8);

@@ -703,7 +703,11 @@ public final class PromisesTest {
     due("nobody: the first", () -> Check.told("person 1 0 0 0;").loudest(9), 1);
     due("richest now", () -> x.later(0, 0), 1);
     due("richest", () -> x.later(4, 0), 0);
-    due("nobody owns any", () -> x.later(7, 0), -1);
+    due("nobody owns any: they are alike", () -> x.later(7, 0), 0);
+    due("alike from the start", () -> Check.told("person 1 0 0 0;person 1 0 30 0;tune 1;").later(0, 0), 0);
+    due("without tunes", () -> Check.told("person 1 0 0 0;person 1 0 30 0;").later(60, 0), 0);
+    due("without people", () -> Check.told("tune 1;").later(60, 0), -1);
+    due("a new object", () -> new HummedTunes().later(0, 0), -1);
     due("of like ones the least", () -> Check.told("person 1 0 0 0;person 1 0 30 0;person 1 0 15 0;tune 1 of 2;tune 1 of 1;").later(0, 0), 1);
     due("who owns most", () -> Check.told("person 1 0 0 0;person 1 0 30 0;tune 1 of 0;tune 1 of 1;tune 1 of 1;").later(0, 0), 1);
     due("taken in none", () -> x.later(0, 1), 0);
@@ -993,11 +997,15 @@ public final class PromisesTest {
     never.hours(4);
     due("none rests", () -> never.game(0, 1, 0), 0);
     due("no first", () -> never.game(0, 1, 1), -1);
+    due("none, turned round", () -> never.game(1, 0, 0), 0);
+    due("no first, turned round", () -> never.game(1, 0, 1), -1);
     // Gains -1/4, -1/4 by 0 1, 4/-1 by 1 0, 0/0 by 1 1, where both stop together in the seventh hour.
     HummedTunes both = Check.told("person 3 1 6 0;person 4 2 4 0;tune 3 of 0;joins 1;");
     both.hours(2);
     due("both hushed alone rests", () -> both.game(0, 1, 0), 1);
     due("11", () -> both.game(0, 1, 1), 11);
+    due("whoever is named first, the lesser is hushed first", () -> both.game(1, 0, 0), 1);
+    due("11, turned round", () -> both.game(1, 0, 1), 11);
     Check.unfit("both are one", () -> x.game(0, 0, 0));
     Check.missing("what ahead of that", () -> x.game(0, 0, 2));
     Check.missing("what -1", () -> x.game(0, 1, -1));
@@ -1174,7 +1182,7 @@ public final class PromisesTest {
     due("60 is no fault", () -> x.toStand(1, 60, 1) >= 0, true);
     due("60 is no fault", () -> x.toHush(0, 60), -1);
     due("60 is no fault", () -> x.without(1, 60), -1);
-    due("60 is no fault", () -> x.later(60, 0), -1);
+    due("60 is no fault", () -> x.later(60, 0), 0);
     Check.missing("then what -1", () -> x.then(0, 0, -1));
     Check.missing("then person -1", () -> x.then(-1, 0, 0));
     Check.missing("whose what -1", () -> x.whose(0, 0, -1));
