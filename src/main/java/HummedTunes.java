@@ -1437,15 +1437,13 @@ public final class HummedTunes {
         int askWhoStops() {
             int stopping = 0;
             for (int person = 0; person < facts.people; person++) {
-                if (tuneOf[person] != NONE && wantsToStop(person, tuneOf[person])) {
+                int tune = tuneOf[person];
+                boolean breathless = hummed[person] >= breath[person];
+                if (tune != NONE && (breathless || ruleGives(STOPS, person, tune, hummed[person]) > 0)) {
                     stopping |= 1 << person;
                 }
             }
             return stopping;
-        }
-
-        boolean wantsToStop(int person, int tune) {
-            return hummed[person] >= breath[person] || ruleGives(STOPS, person, tune, hummed[person]) > 0;
         }
 
         void beginOrJoin(int person) {
