@@ -230,6 +230,11 @@ final class EdgesOfQuestions {
     Edge.due("nobody's stays nobody's", () -> Check.told(TWO).later(60, 1), 1);
     String apart = "person 2 0 0 0;person 2 0 1 0;person 2 0 20 0;person 2 0 21 0;tune 3 of 0;tune 4 of 2;joins 1;";
     Edge.due("of two tunes", () -> Check.told(apart).later(3, 1), 2);
+    HummedTunes again = Check.told(TWO);
+    for (int i = 0; i < 3; i++) {
+      Edge.due("asked again", () -> again.later(60, 1), 1);
+      Edge.due("years count anew", () -> again.years(0, 0, 0), 0);
+    }
     HummedTunes behind = Check.told(TWO);
     behind.hours(3);
     Edge.due("what was taken ahead does not count", () -> behind.later(60, 1), 0);
@@ -432,6 +437,15 @@ final class EdgesOfQuestions {
     HummedTunes alone = Check.told("person 1 0 0 0;tune 1;");
     Edge.due("not oneself", () -> alone.without(0, 60), -1);
     Edge.due("no more than with", () -> Check.told(ALONE).without(0, 60), -1);
+    // One with a breath of 9 takes the first tune, one with 8 the second, which one hums as the first is hummed.
+    String takers = "tune 1 of 0;tune 2 of 0;joins (breath=9)*(air=1)+(breath=8)*(air=2);";
+    HummedTunes most = Check.told("person 2 0 0 0;person 9 9 0 0;person 8 9 0 0;" + takers);
+    Edge.due("none is left", () -> most.then(0, 15, 2), 0);
+    Edge.due("two by the first one's leaving, one by the second one's", () -> most.without(0, 15), 1);
+    HummedTunes turned = Check.told("person 2 0 0 0;person 8 9 0 0;person 9 9 0 0;" + takers);
+    Edge.due("one by the first one's leaving, two by the second one's", () -> turned.without(0, 15), 2);
+    HummedTunes like = Check.told("person 2 0 0 0;person 1 0 1 0;person 2 0 2 0;tune 3 of 0;joins (breath=1)*(with=1)+(breath=2)*(with=2);");
+    Edge.due("of like ones the least", () -> like.without(0, 3), 1);
     Edge.by("Promise 25", "WITHOUT; NONE: none.");
     HummedTunes last = Check.told("earshot 1;person 2 0 0 0;" + Edge.times(6, "person 2 0 20 0;") + "person 2 0 1 0;tune 1 of 0;joins 1;");
     Edge.due("the last of eight", () -> last.without(0, 3), 7);

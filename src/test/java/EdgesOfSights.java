@@ -164,6 +164,12 @@ final class EdgesOfSights {
     look(five, 0, 2);
     five.see(0, 0, 5);
     look(five, 0, 1);
+    HummedTunes least = Check.told("person 9 9 0 0;tune 1 of 0;");
+    least.see(0, -1, 2);
+    look(least, 0, 1);
+    // A breath of 0, which nobody has, would let the first one join in the second and the fifth hour.
+    look(Check.told("person 20 2 0 0;person 20 0 0 0;tune 1 of 1;joins breath=0;"), 1, 2);
+    look(Check.told("person 20 2 0 0;person 20 0 0 0;tune 1 of 1;joins breath=21;"), 1, 2);
     Edge.by("4", "how many; none without any.");
     five.see(0, -1, 5);
     look(five, -1, 0);
@@ -293,6 +299,18 @@ final class EdgesOfSights {
     HummedTunes eighth = Check.told("person 1 9 0 0;person 9 9 1 0;tune 1 of 0;joins 1;");
     eighth.hours(2);
     game(eighth, 0, 1, 2, 0);
+    // One owns 1 and the other one 3 if one is hushed, else both none: 1 is more than 0.
+    HummedTunes more = Check.told("person 7 1 0 0;person 7 0 3 0;person 1 0 3 0;person 1 0 0 0;person 7 2 1 0;"
+        + "tune 8 of 1;tune 8 of 2;tune 5 of 2;tune 5 of 2;tune 6 of 4;tune 1 of 0;joins 1;stops hummed-air;");
+    more.hours(7);
+    game(more, 1, 2, 2, 10);
+    game(more, 2, 1, 2, 1);
+    // One owns 1 and the other one 5 if one is not hushed, else 0 and 1: both are -1.
+    HummedTunes alike = Check.told("person 7 3 0 0;person 1 1 0 0;person 1 0 0 0;person 7 0 0 0;"
+        + "tune 5 of 1;tune 6 of 1;tune 1 of 1;tune 5 of 1;tune 5 of 1;tune 7 of 1;joins 1;stops not with;");
+    alike.hours(2);
+    game(alike, 0, 1, 2, 0);
+    game(alike, 1, 0, 2, 0);
     Edge.by("4", "A couple RESTS, if neither gains more by the other choice: how many; the first (10 by the first one's, and the other one's)");
     HummedTunes never = Check.told("person 3 0 2 0;person 5 2 3 0;tune 0 of 1;joins 1;");
     never.hours(4);
@@ -446,37 +464,51 @@ final class EdgesOfSights {
 
   private static void yearsByActs() {
     Edge.by("4", "A seed becomes itself times 1103515245 and 12345 (an int that wraps); a DRAW of n is its bits 16 to 30 MOD n then.");
-    String text = "earshot 12;person 3 0 0 0;person 7 1 9 0;whistler 2 0 20 0;tune 1 of 0;tune 2 of 1;joins 9-far;stops with=2;";
+    int[] all = {1, 2, 7, 59, 60};
+    yearsOf("earshot 12;person 3 0 0 0;person 7 1 9 0;whistler 2 0 20 0;tune 1 of 0;tune 2 of 1;joins 9-far;stops with=2;", all);
+    yearsOf("person 3 0 0 0;tune 1 of 0;", all);
+    yearsOf("person 3 1 0 0;person 4 0 2 0;tune 1 of 0;joins 1;", all);
+    int[] few = {1, 9, 30};
+    yearsOf("earshot 4;" + Edge.times(4, "person 3 0 7 0;person 2 1 9 0;")
+        + "tune 1 of 0;tune 2 of 2;tune 3 of 7;tune 4 of 5;tune 5 of 6;tune 6 of 1;joins 9-far-with;", few);
+  }
+
+  private static void yearsOf(String text, int[] hours) {
     int[] seeds = {0, 1, 2, 3, -1, -7, 65536, 12345, Integer.MIN_VALUE, Integer.MAX_VALUE, 0x12345678, 0xcafebabe};
-    int[] hours = {1, 2, 7, 59, 60};
     for (int from : seeds) {
       for (int n : hours) {
-        HummedTunes x = Check.told(text);
-        int[] owners = {0, 1};
-        int often = 0;
-        seed = from;
-        for (int i = 0; i < n; i++) {
-          int kind = draw(7);
-          if (kind == 0) {
-            x.cough(draw(2));
-          } else if (kind == 1) {
-            x.hush(draw(3));
-          } else if (kind == 2) {
-            int person = draw(3);
-            x.go(person, draw(31));
-          }
-          often += changed(x, owners);
-          x.hours(1);
-          often += changed(x, owners);
-        }
+        int[] want = yearsDone(text, from, n);
         HummedTunes y = Check.told(text);
-        int[] want = {often, Integer.bitCount(x.count(5)), Integer.bitCount(x.count(4))};
         for (int what = 0; what < 3; what++) {
           int w = what;
-          Edge.due("years(" + from + ", " + n + ", " + w + ")", () -> y.years(from, n, w), want[w]);
+          Edge.due("years(" + from + ", " + n + ", " + w + ") of " + text, () -> y.years(from, n, w), want[w]);
         }
       }
     }
+  }
+
+  private static int[] yearsDone(String text, int from, int n) {
+    HummedTunes x = Check.told(text);
+    int people = x.count(0);
+    int[] owners = new int[x.count(1)];
+    changed(x, owners);
+    int often = 0;
+    seed = from;
+    for (int i = 0; i < n; i++) {
+      int kind = draw(7);
+      if (kind == 0) {
+        x.cough(draw(owners.length));
+      } else if (kind == 1) {
+        x.hush(draw(people));
+      } else if (kind == 2) {
+        int person = draw(people);
+        x.go(person, draw(31));
+      }
+      often += changed(x, owners);
+      x.hours(1);
+      often += changed(x, owners);
+    }
+    return new int[] {often, Integer.bitCount(x.count(5)), Integer.bitCount(x.count(4))};
   }
 
   // ---- 34, 35
@@ -505,11 +537,10 @@ final class EdgesOfSights {
   private static void imageEdges() {
     Edge.by("4", "AN IMAGE keeps all that HOURS and ACTS change, ACTS that are kept, what is SEEN, STATUS.");
     HummedTunes x = Check.told(TWO + "tune 4;");
-    for (int i = 0; i < 45; i++) {
-      x.go(1, 2 + i % 2);
+    for (int i = 1; i <= 45; i++) {
+      x.go(1, i % 31);
     }
     x.hours(2);
-    x.sell(0, 1);
     for (int i = 0; i < 9; i++) {
       x.see(0, 0, 1 + i);
     }
@@ -520,6 +551,7 @@ final class EdgesOfSights {
     x.hours(20);
     x.cough(0);
     x.go(0, 30);
+    x.sell(0, 1);
     x.forget();
     x.see(1, -1, 1);
     x.hours(0);
@@ -535,9 +567,10 @@ final class EdgesOfSights {
       for (int left = 39; left >= 0; left--) {
         int l = left;
         Edge.due("undo", x::undo, l);
+        // Behind the 6 of 46 acts that are not kept and those that are left.
+        Edge.due("where one stood", () -> x.person(1, 2), (6 + l) % 31);
       }
       Edge.due("none is left", x::undo, -1);
-      Edge.due("of 46 acts the first six stay", () -> x.person(1, 2), 3);
       x.forget();
     }
     Edge.by("Promise 34", "AN IMAGE is kept, in place of another one.");

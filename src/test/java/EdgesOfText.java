@@ -241,6 +241,29 @@ final class EdgesOfText {
     Edge.good("stops 1 or2 and3;");
     Edge.fault("stops 1 orhour;", 1, 8);
     Edge.fault("stops " + "z".repeat(690) + ";", 3, 6);
+    String[] lines = {"person", "whistler", "tune", "earshot", "stops", "joins"};
+    for (String word : lines) {
+      for (int i = 0; i < word.length(); i++) {
+        Edge.fault(word.substring(0, i) + "z" + word.substring(i + 1) + " 1", 1, 0);
+        Edge.fault(word.substring(0, i) + word.substring(i + 1) + " 1", 1, 0);
+      }
+    }
+    String[] values = {"breath", "air", "with", "tunes", "hour", "hummed"};
+    for (String word : values) {
+      for (int i = 0; i < word.length(); i++) {
+        Edge.fault("stops " + word.substring(0, i) + "z" + word.substring(i + 1) + ";", 3, 6);
+      }
+    }
+    String[] between = {"zr", "oz", "znd", "azd", "anz", "zot"};
+    for (String word : between) {
+      Edge.fault("stops 1 " + word + " 1;", 1, 8);
+    }
+    String[] nots = {"zot", "nzt", "noz"};
+    for (String word : nots) {
+      Edge.fault("stops " + word + " 1;", 3, 6);
+    }
+    Edge.fault("person 1 0 0 0;tune 1 zf 0;", 1, 22);
+    Edge.fault("person 1 0 0 0;tune 1 oz 0;", 1, 22);
   }
 
   private static void digits() {
@@ -753,6 +776,14 @@ final class EdgesOfText {
     HummedTunes y = lively();
     Check.tell(y, "person 3 0 0 0;person 3 0 0 0;tune 4 of 0;");
     Edge.due("the rule is gone", () -> y.whose(0, 3, 1), 1);
+    HummedTunes humming = lively();
+    Edge.due("one hums", () -> humming.person(0, 5), 2);
+    Check.tell(humming, "person 3 9 0 0;person 3 0 0 0;tune 4 of 0;");
+    Edge.due("no more", () -> humming.person(0, 4), -1);
+    Edge.due("for no hour", () -> humming.person(0, 5), 0);
+    humming.hours(4);
+    Check.tell(humming, "person 3 9 0 0;person 3 0 0 0;tune 4 of 0;");
+    Edge.due("never stopped", () -> humming.person(0, 7), 1);
     Edge.by("Promise 3", "ACTS, what is SEEN, the image are gone.");
     HummedTunes z = lively();
     Edge.refused("an act", z, 13, () -> z.hours(0));

@@ -7,7 +7,9 @@ import java.lang.reflect.Modifier;
 import java.nio.file.Files;
 import java.nio.file.Path;
 import java.util.Arrays;
+import java.util.HashMap;
 import java.util.HashSet;
+import java.util.Map;
 import java.util.Set;
 import java.util.TreeSet;
 import java.util.regex.Matcher;
@@ -25,6 +27,7 @@ public final class FormTest {
     classesInside();
     source();
     methods();
+    depth();
     room();
     Check.end("FormTest");
   }
@@ -159,6 +162,53 @@ public final class FormTest {
       }
     }
     Check.same("methods were found", many > 100, true);
+  }
+
+  // ---- how deep calls go
+
+  /** Each method's name with the names that its body calls; methods of one name count as one. */
+  private static Map<String, Set<String>> callsByName() throws IOException {
+    Map<String, Set<String>> calls = new HashMap<>();
+    Pattern head = Pattern.compile("^( {4}| {8})\\S.*?(\\w+)\\([^)]*\\).*\\{$");
+    Pattern call = Pattern.compile("\\b(\\w+)\\(");
+    String[] lines = plainSource().split("\n");
+    for (int i = 0; i < lines.length; i++) {
+      Matcher m = head.matcher(lines[i]);
+      if (m.matches()) {
+        Set<String> called = calls.computeIfAbsent(m.group(2), n -> new HashSet<>());
+        for (int at = i + 1; !lines[at].equals(m.group(1) + "}"); at++) {
+          Matcher c = call.matcher(lines[at]);
+          while (c.find()) {
+            called.add(c.group(1));
+          }
+        }
+      }
+    }
+    return calls;
+  }
+
+  /** How many calls stand open at once at most, each method once: a recursion counts by its members. */
+  private static int depthOf(String name, Map<String, Set<String>> calls, Set<String> open) {
+    int most = 0;
+    open.add(name);
+    for (String called : calls.get(name)) {
+      if (calls.containsKey(called) && !open.contains(called)) {
+        most = Math.max(most, depthOf(called, calls, open));
+      }
+    }
+    open.remove(name);
+    return most + 1;
+  }
+
+  private static void depth() throws IOException {
+    Map<String, Set<String>> calls = callsByName();
+    int deepest = 0;
+    for (String name : calls.keySet()) {
+      int depth = depthOf(name, calls, new HashSet<>());
+      deepest = Math.max(deepest, depth);
+      Check.same("calls from " + name + " go " + depth + " deep", depth <= 8, true);
+    }
+    Check.same("calls were found", deepest > 4, true);
   }
 
   // ---- the room
