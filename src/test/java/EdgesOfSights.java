@@ -243,6 +243,10 @@ final class EdgesOfSights {
     each.hours(1);
     Edge.due("one of each tune: one's own", () -> each.thunder(0, 0, 5, 10), 100000);
     Edge.due("and the other one's own", () -> each.thunder(1, 1, 5, 10), 100000);
+    HummedTunes full = Check.told(Edge.times(8, "person 20 9 0 0;") + "tune 1 of 1;tune 1 of 2;tune 1 of 3;tune 1 of 4;tune 1 of 5;tune 1 of 7;joins far;");
+    full.hours(1);
+    Edge.due("six tunes, the last one's own", () -> full.thunder(7, 5, 5, 10), 100000);
+    Edge.due("six tunes, not the first one's", () -> full.thunder(0, 5, 5, 10), 0);
     HummedTunes begins = Check.told("person 20 0 0 0;person 20 0 1 0;tune 1 of 0;joins 1;");
     Edge.due("nobody hums ahead of the first", () -> begins.thunder(0, 0, 1, 10), 10);
     Edge.due("but ahead of the second", () -> begins.thunder(0, 0, 2, 10), 0);
