@@ -388,33 +388,25 @@ public final class HummedTunes {
     public int toHush(int person, int hours) throws NoSuchElementException, IllegalArgumentException {
         mustExist(isPerson(person));
         mustFit(isWithin(hours, 1, MAX_AHEAD));
-        startTrial();
-        int most = trial.ownedBehind(person, hours);
-        int best = NONE;
-        for (int other = 0; other < facts.people; other++) {
-            if (now.tuneOf[other] != NONE) {
-                startTrial();
-                trial.quiet(other);
-                int owned = trial.ownedBehind(person, hours);
-                if (owned > most) {
-                    most = owned;
-                    best = other;
-                }
-            }
-        }
-        return best;
+        return bestToSilence(now.allHummers(), false, person, hours);
     }
 
     public int without(int person, int hours) throws NoSuchElementException, IllegalArgumentException {
         mustExist(isPerson(person));
         mustFit(isWithin(hours, 1, MAX_AHEAD));
+        return bestToSilence(~(1 << person), true, person, hours);
+    }
+
+    /** Of some (bits) the one by whose HUSHING or leaving now a PERSON would OWN most; NONE: not more. */
+    private int bestToSilence(int some, boolean forGood, int person, int hours) {
         startTrial();
         int most = trial.ownedBehind(person, hours);
         int best = NONE;
         for (int other = 0; other < facts.people; other++) {
-            if (other != person) {
+            if ((some >> other & 1) == 1) {
                 startTrial();
-                trial.leave(other);
+                trial.quiet(other);
+                trial.left = forGood ? other : NONE;
                 int owned = trial.ownedBehind(person, hours);
                 if (owned > most) {
                     most = owned;
@@ -1201,6 +1193,7 @@ public final class HummedTunes {
         // These two follow from the rows above, and are kept since each HOUR asks them often.
         final int[] hummers = new int[MAX_TUNES];
         final int[] heard = new int[MAX_PEOPLE];
+        // Who begins and joins nothing any more.
         int left;
         // How often a TUNE came to another OWNER since this began, or was copied.
         int taken;
@@ -1383,11 +1376,6 @@ public final class HummedTunes {
             for (int tune = 0; tune < facts.tunes; tune++) {
                 quietAll(tune);
             }
-        }
-
-        void leave(int person) {
-            quiet(person);
-            left = person;
         }
 
         /** Of all who stop (bits), those who hum a TUNE do, and it is settled whose it is. */

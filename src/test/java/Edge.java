@@ -31,11 +31,17 @@ final class Edge {
       throw new UncheckedIOException(e);
     }
     Map<String, String> parts = new LinkedHashMap<>();
+    // The first lines are one long sentence: each of its clauses is to be quoted.
+    String[] clauses = between(doc, "## What it is ", " ==== 1.").split("; ");
+    for (int i = 0; i < clauses.length; i++) {
+      parts.put("First lines " + (i + 1), clauses[i]);
+    }
     parts.put("What it is", between(doc, "==== 1. ", " ## The public face"));
     parts.put("Terms", between(doc, "## Terms ", " ==== 2. "));
     parts.put("2", between(doc, " ==== 2. ", " ==== 3. "));
     parts.put("3", between(doc, " ==== 3. ", " ==== 4. "));
     parts.put("4", between(doc, " ==== 4. ", " The constants: "));
+    parts.put("Constants", between(doc, " The constants: ", " ## Promise 1:"));
     for (int promise = 1; promise <= 35; promise++) {
       String next = promise == 35 ? " ## Not promised" : " ## Promise " + (promise + 1) + ":";
       String part = between(doc, "## Promise " + promise + ": ", next);

@@ -4,6 +4,7 @@ public final class EdgesTest {
   }
 
   public static void main(String[] args) {
+    EdgesOfFirstLines.all();
     EdgesOfText.all();
     EdgesOfHours.all();
     EdgesOfQuestions.all();
